@@ -1,0 +1,41 @@
+/** Counts and prints the answers that are not as due; the end of a test is exit code 1 if there was one. */
+final class Check {
+    private static final int MOST_PRINTED = 40;
+    private int asked;
+    private int wrong;
+
+    void same(String what, long got, long due) {
+        asked++;
+        if (got != due) {
+            fault(what + " answered " + got + ", due is " + due);
+        }
+    }
+
+    void fault(String text) {
+        wrong++;
+        if (wrong <= MOST_PRINTED) {
+            System.out.println(text);
+        }
+    }
+
+    /** Asks that the call throws just this class of exception. */
+    void thrown(String what, Class<? extends RuntimeException> due, Runnable call) {
+        asked++;
+        try {
+            call.run();
+        } catch (RuntimeException e) {
+            if (e.getClass() != due) {
+                fault(what + " threw " + e + ", due is " + due);
+            }
+            return;
+        }
+        fault(what + " threw nothing, due is " + due);
+    }
+
+    void end() {
+        System.out.println(wrong == 0 ? asked + " answers are as due" : wrong + " answers are not as due");
+        if (wrong != 0) {
+            System.exit(1);
+        }
+    }
+}
