@@ -278,33 +278,44 @@ public final class RiscHart {
         if (!LongForm.isAtomic(word)) {
             return trap(ILLEGAL, word);
         }
+        int k = LongForm.k(word);
         int address = registers[LongForm.a(word)];
         if (Memory.isMisaligned(Memory.WORD, address)) {
             return trap(MISALIGNED, address);
         }
-        if (LongForm.k(word) != LOAD_RESERVED && !memory.allows(Memory.MAY_WRITE, address)) {
+        if (k != LOAD_RESERVED && !memory.allows(Memory.MAY_WRITE, address)) {
             return trap(STORE, address);
         }
         if (!memory.allows(Memory.MAY_READ, address)) {
             return trap(LOAD, address);
         }
-        return changeAtomically(word, address);
+        int d = LongForm.d(word);
+        int b = registers[LongForm.b(word)];
+        switch (k) {
+            case LOAD_RESERVED: return loadReserved(d, address);
+            case STORE_CONDITIONAL: return storeConditional(d, address, b);
+            default: return change(k, d, address, b);
+        }
     }
 
-    private int changeAtomically(int word, int address) {
-        int d = LongForm.d(word);
-        int k = LongForm.k(word);
-        int b = registers[LongForm.b(word)];
-        int old = memory.read(Memory.WORD, address);
-        if (k == LOAD_RESERVED) {
-            memory.reserve(address);
-            return give(d, old);
+    private int loadReserved(int d, int address) {
+        memory.reserve(address);
+        return give(d, memory.read(Memory.WORD, address));
+    }
+
+    private int storeConditional(int d, int address, int b) {
+        boolean isReserved = memory.reservedAddress() == address;
+        if (isReserved) {
+            memory.write(Memory.WORD, address, b);
         }
-        if (k == STORE_CONDITIONAL) {
-            return give(d, memory.writeIfReserved(address, b) ? 0 : 1);
-        }
-        memory.write(Memory.WORD, address, Arithmetic.changed(k, old, b));
-        return give(d, old);
+        memory.reserve(Memory.NOTHING);
+        return give(d, isReserved ? 0 : 1);
+    }
+
+    private int change(int k, int d, int address, int b) {
+        int word = memory.read(Memory.WORD, address);
+        memory.write(Memory.WORD, address, Arithmetic.changed(k, word, b));
+        return give(d, word);
     }
 
     private int longSystem(int word) {
@@ -493,15 +504,6 @@ public final class RiscHart {
             reserved = address;
         }
 
-        boolean writeIfReserved(int address, int v) {
-            boolean isReserved = reserved == address;
-            if (isReserved) {
-                write(WORD, address, v);
-            }
-            reserved = NOTHING;
-            return isReserved;
-        }
-
         int read(int width, int address) {
             int word = words[wordIndex(address)];
             int part = word >>> shiftOf(address);
@@ -649,7 +651,7 @@ public final class RiscHart {
         }
 
         static int number(int half) {
-            return Bits.signed(Bits.part(half, 12, 1) << 5 | b(half), 6);
+            return Bits.signed(Bits.part(half, 12, 1) << 5 | Bits.part(half, 2, 5), 6);
         }
 
         /** U[5:4|9:6|2|3] of the bits 5 .. 12. */
