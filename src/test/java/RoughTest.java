@@ -46,8 +46,8 @@ public final class RoughTest {
             case 1: case 2: expect(a >= 0 && a <= 65532 && a % 4 == 0, true, () -> x.plant(a, random.nextInt())); break;
             case 3: expect(a >= 0 && a <= 65535, true, () -> within(x.peek(a), 0, 255)); break;
             case 4: rights(x, random, a, b); break;
-            case 5: expect(a >= 0 && a <= 31, true, () -> within(x.set(a, b) ? 1 : 0, a == 0 ? 0 : 1, a == 0 ? 0 : 1)); break;
-            case 6: expect(a >= 0 && a <= 31, true, () -> within(x.register(a), a == 0 ? 0 : Integer.MIN_VALUE, a == 0 ? 0 : Integer.MAX_VALUE)); break;
+            case 5: expect(a >= 0 && a <= 31, true, () -> setAndAsk(x, a, b)); break;
+            case 6: expect(a >= 0 && a <= 31, true, () -> x.register(a)); break;
             case 7: x.jump(random.nextBoolean() ? a : random.nextInt(512) * 2); break;
             case 8: x.clock(random.nextLong()); break;
             case 9: stepOnce(x); break;
@@ -59,6 +59,12 @@ public final class RoughTest {
     private static void rights(RiscHart x, Random random, int page, int rights) {
         int mostly = random.nextInt(4) == 0 ? rights : random.nextInt(8);
         expect(page >= 0 && page <= 63 && mostly >= 0 && mostly <= 7, false, () -> within(x.rights(page, mostly), 0, 7));
+    }
+
+    private static void setAndAsk(RiscHart x, int r, int v) {
+        CHECK.same("set", x.set(r, v) ? 1 : 0, r == 0 ? 0 : 1);
+        CHECK.same("register", x.register(r), r == 0 ? 0 : v);
+        CHECK.same("x0", x.register(0), 0);
     }
 
     private static void stepOnce(RiscHart x) {
@@ -73,6 +79,7 @@ public final class RoughTest {
         }
     }
 
+    /** Not for the whole range of int: OpenJDK 17's C2 now and then takes an answer to be outside that. */
     private static void within(int answer, int least, int most) {
         if (answer < least || answer > most) {
             CHECK.fault("answered " + answer + ", not in " + least + " .. " + most);
