@@ -1,6 +1,9 @@
 /** Counts and prints the answers that are not as due; the end of a test is exit code 1 if there was one. */
 final class Check {
     private static final int MOST_PRINTED = 40;
+    private static final int MOST_PRINTED_OF_A_SENTENCE = 4;
+    private String sentence = "";
+    private int printable = MOST_PRINTED;
     private int asked;
     private int wrong;
 
@@ -13,8 +16,9 @@ final class Check {
 
     void fault(String text) {
         wrong++;
-        if (wrong <= MOST_PRINTED) {
-            System.out.println(text);
+        if (printable > 0) {
+            printable--;
+            System.out.println(sentence + text);
         }
     }
 
@@ -30,6 +34,21 @@ final class Check {
             return;
         }
         fault(what + " threw nothing, due is " + due);
+    }
+
+    /** Asks one sentence of the document: what is wrong is told with its words, and the next one is asked all the same. */
+    void sentence(String words, Runnable questions) {
+        sentence = "\"" + words + "\": ";
+        printable = MOST_PRINTED_OF_A_SENTENCE;
+        int before = asked;
+        try {
+            questions.run();
+        } catch (RuntimeException e) {
+            fault("threw " + e);
+        }
+        if (asked == before) {
+            fault("nothing was asked");
+        }
     }
 
     void end() {

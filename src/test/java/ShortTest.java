@@ -26,21 +26,6 @@ public final class ShortTest {
         return half >> from & (1 << to - from + 1) - 1;
     }
 
-    /** The number whose bits the pattern names for the bits of the half from the highest on. */
-    private static int spread(int half, int highest, String pattern) {
-        int number = 0;
-        int at = highest;
-        for (String part : pattern.split("\\|")) {
-            String[] ends = part.split(":");
-            int last = Integer.parseInt(ends[ends.length - 1]);
-            for (int bit = Integer.parseInt(ends[0]); bit >= last; bit--) {
-                number |= (half >> at & 1) << bit;
-                at--;
-            }
-        }
-        return number;
-    }
-
     private static int signed(int number, int highest) {
         return (number >> highest & 1) == 0 ? number : number - (2 << highest);
     }
@@ -56,10 +41,10 @@ public final class ShortTest {
     private static int expandQ0(int half) {
         int low = 8 + bits(half, 2, 4);
         int high = 8 + bits(half, 7, 9);
-        int offset = spread(half, 12, "5:3") | spread(half, 6, "2|6");
+        int offset = Half.read(half, 12, "5:3") | Half.read(half, 6, "2|6");
         switch (half >> 13) {
             case 0:
-                int number = spread(half, 12, "5:4|9:6|2|3");
+                int number = Half.read(half, 12, "5:4|9:6|2|3");
                 return number == 0 ? ILLEGAL : Asm.addi(low, 2, number);
             case 2: return Asm.lw(low, high, offset);
             case 6: return Asm.sw(low, high, offset);
@@ -70,16 +55,16 @@ public final class ShortTest {
     private static int expandQ1(int half) {
         int d = bits(half, 7, 11);
         int high = 8 + bits(half, 7, 9);
-        int number = signed(spread(half, 12, "5") | spread(half, 6, "4:0"), 5);
-        int offsetJ = signed(spread(half, 12, "11|4|9:8|10|6|7|3:1|5"), 11);
-        int offsetT = signed(spread(half, 12, "8|4:3") | spread(half, 6, "7:6|2:1|5"), 8);
+        int number = signed(Half.read(half, 12, "5") | Half.read(half, 6, "4:0"), 5);
+        int offsetJ = signed(Half.read(half, 12, "11|4|9:8|10|6|7|3:1|5"), 11);
+        int offsetT = signed(Half.read(half, 12, "8|4:3") | Half.read(half, 6, "7:6|2:1|5"), 8);
         switch (half >> 13) {
             case 0: return Asm.addi(d, d, number);
             case 1: return Asm.j(LINK, offsetJ);
             case 2: return Asm.addi(d, 0, number);
             case 3:
                 if (d == 2) {
-                    int move = signed(spread(half, 12, "9") | spread(half, 6, "4|6|8:7|5"), 9);
+                    int move = signed(Half.read(half, 12, "9") | Half.read(half, 6, "4|6|8:7|5"), 9);
                     return move == 0 ? ILLEGAL : Asm.addi(2, 2, move);
                 }
                 return number == 0 ? ILLEGAL : Asm.u(0x37, d, number);
@@ -115,7 +100,7 @@ public final class ShortTest {
         boolean bit12 = bits(half, 12, 12) == 1;
         switch (half >> 13) {
             case 0: return bit12 ? ILLEGAL : Asm.i(0x13, 1, d, d, b);
-            case 2: return d == 0 ? ILLEGAL : Asm.lw(d, 2, spread(half, 12, "5") | spread(half, 6, "4:2|7:6"));
+            case 2: return d == 0 ? ILLEGAL : Asm.lw(d, 2, Half.read(half, 12, "5") | Half.read(half, 6, "4:2|7:6"));
             case 4:
                 if (b != 0) {
                     return Asm.r(0, 0, d, bit12 ? d : 0, b);
@@ -124,7 +109,7 @@ public final class ShortTest {
                     return Asm.i(0x67, 0, bit12 ? LINK : 0, d, 0);
                 }
                 return bit12 ? Asm.BREAK : ILLEGAL;
-            case 6: return Asm.sw(b, 2, spread(half, 12, "5:2|7:6"));
+            case 6: return Asm.sw(b, 2, Half.read(half, 12, "5:2|7:6"));
             default: return ILLEGAL;
         }
     }

@@ -1,13 +1,11 @@
-import java.util.Arrays;
-
 /** Promise 10: causes, the order in which they are asked, their values, and that nothing else changes. */
 public final class TrapTest {
     private static final Check CHECK = new Check();
-    private static final int FETCH = 1;
-    private static final int ILLEGAL = 2;
-    private static final int MISALIGNED = 5;
-    private static final int LOAD = 6;
-    private static final int STORE = 7;
+    private static final int FETCH = Traps.FETCH;
+    private static final int ILLEGAL = Traps.ILLEGAL;
+    private static final int MISALIGNED = Traps.MISALIGNED;
+    private static final int LOAD = Traps.LOAD;
+    private static final int STORE = Traps.STORE;
     private static final int NOP = Asm.addi(0, 0, 0);
 
     public static void main(String[] args) {
@@ -25,28 +23,8 @@ public final class TrapTest {
         CHECK.end();
     }
 
-    private static long[] state(RiscHart x) {
-        long[] state = new long[35 + 16];
-        for (int r = 0; r < 32; r++) {
-            state[r] = x.register(r);
-        }
-        state[32] = x.count(0);
-        state[33] = x.count(3);
-        state[34] = x.count(4);
-        for (int k = 0; k < 16; k++) {
-            state[35 + k] = x.peek(0x3000 + k);
-        }
-        return state;
-    }
-
     private static void traps(String what, RiscHart x, int cause, int value) {
-        long[] before = state(x);
-        CHECK.same("step() of " + what, x.step(), cause);
-        CHECK.same("cause of " + what, x.count(1), cause);
-        CHECK.same("value of " + what, x.count(2), value);
-        if (!Arrays.equals(before, state(x))) {
-            CHECK.fault(what + " changed more than cause and value");
-        }
+        Traps.ask(CHECK, what, x, cause, value);
     }
 
     /** A hart with the word 0x3004 reserved and a mark in every register. */
