@@ -32,11 +32,7 @@ public final class AtomicTest {
 
     /** A hart with the address in x5, b in x6 and a word there. */
     private static RiscHart hart(int word, int b) {
-        RiscHart x = new RiscHart();
-        x.set(5, AT);
-        x.set(6, b);
-        x.plant(AT, word);
-        return x;
+        return Bench.withWord(AT, word, b);
     }
 
     private static void carryOut(RiscHart x, int word) {

@@ -16,6 +16,15 @@ final class Bench {
         return x;
     }
 
+    /** A hart with that word at an address, which is in A, and b in B; no instruction yet. */
+    static RiscHart withWord(int address, int word, int b) {
+        RiscHart x = new RiscHart();
+        x.set(A, address);
+        x.set(B, b);
+        x.plant(address, word);
+        return x;
+    }
+
     /** What register D has behind the instruction. */
     static int result(Check check, int word, int a, int b) {
         RiscHart x = hart(word, a, b);

@@ -32,11 +32,7 @@ public final class EdgeAtomicTest {
 
     /** A hart with the address in x5, b in x6 and a word there. */
     private static RiscHart hart(int word, int b) {
-        RiscHart x = new RiscHart();
-        x.set(5, AT);
-        x.set(6, b);
-        x.plant(AT, word);
-        return x;
+        return Bench.withWord(AT, word, b);
     }
 
     private static void carryOut(RiscHart x, int word) {
@@ -234,6 +230,12 @@ public final class EdgeAtomicTest {
         rows(4, new int[][] {{-1, -1, 0}, {0x0ff0, 0x00ff, 0x0f0f}, {MIN, MAX, -1}});
         rows(12, new int[][] {{-1, -1, -1}, {0x0ff0, 0x00ff, 0x00f0}, {MIN, MAX, 0}});
         rows(8, new int[][] {{0, 0, 0}, {0x0ff0, 0x00ff, 0x0fff}, {MIN, MAX, -1}});
+        RiscHart x = hart(5, 9);
+        carryOut(x, Asm.atomic(1, 6, 5, 6));
+        CHECK.same("word of K 1, d being b", Asm.word(x, AT), 9);
+        RiscHart y = hart(5, 9);
+        carryOut(y, Asm.atomic(0, 5, 5, 5));
+        CHECK.same("word of K 0, d and b being a", Asm.word(y, AT), AT + 5);
     }
 
     private static void lessAndGreater() {

@@ -405,17 +405,24 @@ public final class EdgeShortTest {
         RiscHart same = hart(stackLoad(2, 252));
         same.plant(STACK + 252, 99);
         gives("a load into x2", same, 2, 99);
-        RiscHart y = hart(stackLoad(7, 252));
+        stackEnds(stackLoad(7, 252), stackLoad(7, 0), 6, Traps.LOAD);
+    }
+
+    /** Of an access by 252 and one by 0: at the ends of the bytes, between words and where the page has these rights alone. */
+    private static void stackEnds(int farHalf, int nearHalf, int rights, int missing) {
+        RiscHart y = hart(farHalf);
         y.set(2, 65536 - 252);
-        Traps.ask(CHECK, "behind the last word", y, Traps.LOAD, 65536);
+        Traps.ask(CHECK, "behind the last word", y, missing, 65536);
         y.set(2, 65532 - 252);
         CHECK.same("step() at the last word", y.step(), 0);
-        RiscHart z = hart(stackLoad(7, 0));
-        z.set(2, STACK + 1);
-        Traps.ask(CHECK, "between words", z, Traps.MISALIGNED, STACK + 1);
+        RiscHart z = hart(nearHalf);
+        for (int low = 1; low < 4; low++) {
+            z.set(2, STACK + low);
+            Traps.ask(CHECK, "between words", z, Traps.MISALIGNED, STACK + low);
+        }
         z.set(2, STACK);
-        z.rights(STACK / 1024, 6);
-        Traps.ask(CHECK, "a closed page", z, Traps.LOAD, STACK);
+        z.rights(STACK / 1024, rights);
+        Traps.ask(CHECK, "a closed page", z, missing, STACK);
     }
 
     private static void stackLoadsNotOfZero() {
@@ -497,17 +504,7 @@ public final class EdgeShortTest {
             CHECK.same("step() of a store of x" + b, x.step(), 0);
             CHECK.same("the word of x" + b, Asm.word(x, STACK + 8), had(b));
         }
-        RiscHart y = hart(stackStore(7, 252));
-        y.set(2, 65536 - 252);
-        Traps.ask(CHECK, "behind the last word", y, Traps.STORE, 65536);
-        y.set(2, 65532 - 252);
-        CHECK.same("step() at the last word", y.step(), 0);
-        RiscHart z = hart(stackStore(7, 0));
-        z.set(2, STACK + 2);
-        Traps.ask(CHECK, "between words", z, Traps.MISALIGNED, STACK + 2);
-        z.set(2, STACK);
-        z.rights(STACK / 1024, 5);
-        Traps.ask(CHECK, "a closed page", z, Traps.STORE, STACK);
+        stackEnds(stackStore(7, 252), stackStore(7, 0), 5, Traps.STORE);
     }
 
     /** Of Q 1, every F has instructions; of Q 2, these have none. */

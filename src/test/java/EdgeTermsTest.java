@@ -493,6 +493,14 @@ public final class EdgeTermsTest {
         }
     }
 
+    /** The bytes are watched where such an address would lie if it went round. */
+    private static void notThere(int word, int cause) {
+        for (int address : NOT_THERE) {
+            RiscHart x = Bench.hart(word, address, -1);
+            Traps.ask(CHECK, Integer.toHexString(word) + " at " + address, x, cause, address, address & 0xfff0);
+        }
+    }
+
     private static void loadsAtTheEnd() {
         result("the last byte", LOAD_BYTE, 65535, 0, 0);
         result("the last byte, unsigned", LOAD_UNSIGNED_BYTE, 65535, 0, 0);
@@ -501,9 +509,7 @@ public final class EdgeTermsTest {
         result("the last word", LOAD_WORD, 65532, 0, 0);
         result("the last word, reserved", LOAD_RESERVED, 65532, 0, 0);
         for (int word : new int[] {LOAD_BYTE, LOAD_HALF, LOAD_WORD, LOAD_UNSIGNED_BYTE, LOAD_UNSIGNED_HALF, LOAD_RESERVED}) {
-            for (int address : NOT_THERE) {
-                Traps.ask(CHECK, Integer.toHexString(word) + " at " + address, Bench.hart(word, address, 0), Traps.LOAD, address);
-            }
+            notThere(word, Traps.LOAD);
         }
         Traps.ask(CHECK, "a load into x0", Bench.hart(Asm.lw(0, 5, 0), 65536, 0), Traps.LOAD, 65536);
     }
@@ -547,10 +553,7 @@ public final class EdgeTermsTest {
         CHECK.same("the last byte", x.step(), 0);
         CHECK.same("the last byte", Asm.word(x, 65532), 0x11112211);
         for (int word : new int[] {STORE_BYTE, STORE_HALF, STORE_WORD}) {
-            for (int address : NOT_THERE) {
-                RiscHart y = Bench.hart(word, address, -1);
-                Traps.ask(CHECK, Integer.toHexString(word) + " at " + address, y, Traps.STORE, address, address & 0xfff0);
-            }
+            notThere(word, Traps.STORE);
         }
     }
 
@@ -590,10 +593,7 @@ public final class EdgeTermsTest {
                 closed(word, 0x3400, rights, 0);
                 closed(word, 0x3002, rights, Traps.MISALIGNED);
             }
-            for (int address : NOT_THERE) {
-                RiscHart x = Bench.hart(word, address, -1);
-                Traps.ask(CHECK, Integer.toHexString(word) + " at " + address, x, Traps.STORE, address, address & 0xfff0);
-            }
+            notThere(word, Traps.STORE);
             RiscHart last = Bench.hart(word, 65532, 0);
             CHECK.same("step() of " + Integer.toHexString(word) + " at the last word", last.step(), 0);
         }
@@ -607,9 +607,7 @@ public final class EdgeTermsTest {
         for (int address : new int[] {65537, 65538, -1, -2}) {
             Traps.ask(CHECK, "at " + address, Bench.hart(LOAD_RESERVED, address, 0), Traps.MISALIGNED, address);
         }
-        for (int address : NOT_THERE) {
-            Traps.ask(CHECK, "at " + address, Bench.hart(LOAD_RESERVED, address, 0), Traps.LOAD, address);
-        }
+        notThere(LOAD_RESERVED, Traps.LOAD);
     }
 
     private static void retired() {
